@@ -57,16 +57,30 @@ public final class SafeSenate {
     private static final int TOKEN_SEMICOLON = 3;
     private static final int TOKEN_BAD = 4;
 
-    private static final int LINE_NONE = 0;
-    private static final int LINE_SAFE = 1;
-    private static final int LINE_HOOK = 2;
-    private static final int LINE_SENATOR = 3;
-    private static final int LINE_ACT = 4;
-    private static final int LINE_FOR = 5;
-    private static final int LINE_RESTS = 6;
-    private static final int LINE_DOUBTED = 7;
-    private static final int LINE_WENT = 8;
-    private static final int LINE_FELL = 9;
+    /** The first nine begin LINES and are no NAMES; the others may be NAMES too. */
+    private static final int KEY_NONE = 0;
+    private static final int KEY_SAFE = 1;
+    private static final int KEY_HOOK = 2;
+    private static final int KEY_SENATOR = 3;
+    private static final int KEY_ACT = 4;
+    private static final int KEY_FOR = 5;
+    private static final int KEY_RESTS = 6;
+    private static final int KEY_DOUBTED = 7;
+    private static final int KEY_WENT = 8;
+    private static final int KEY_FELL = 9;
+    private static final int KEY_QUORUM = 10;
+    private static final int KEY_HEAT = 11;
+    private static final int KEY_THUNDER = 12;
+    private static final int KEY_SALT = 13;
+    private static final int KEY_AIR = 14;
+    private static final int KEY_AT = 15;
+    private static final int KEY_GOOD = 16;
+    private static final int KEY_VOTES = 17;
+    private static final int KEY_DAY = 18;
+    private static final int KEY_FRESH = 19;
+    private static final int KEY_SALTED = 20;
+    private static final int KEY_COLD = 21;
+    private static final int MOST_KEYS = KEY_COLD;
 
     private final Parser parser = new Parser();
     private Plan plan = new Plan();
@@ -1303,17 +1317,22 @@ public final class SafeSenate {
         }
     }
 
-    /** THE TAPE, and its TOKENS one behind the other. */
+    /** THE TAPE, and the TOKENS of a text one behind the other. */
     static final class Reader {
         int length;
-        /** The TOKEN at hand: its sort, where it begins, and what it says. */
+        /** The TOKEN at hand: its sort, where it begins, which keyword it is, and its letters or its number. */
         int sort;
         int start;
-        int whole;
-        long word;
+        int keyword;
+        long value;
         private final byte[] bytes = new byte[TAPE_ROOM];
+        private final int[] sorts = new int[TAPE_ROOM + 1];
+        private final int[] starts = new int[TAPE_ROOM + 1];
+        private final int[] keywords = new int[TAPE_ROOM + 1];
+        private final long[] values = new long[TAPE_ROOM + 1];
         private int next;
         private int end;
+        private int at;
 
         void put(int number) {
             for (int shift = 24; shift >= 0; shift -= 8) {
@@ -1324,72 +1343,143 @@ public final class SafeSenate {
             }
         }
 
-        void begin(int n) {
+        /** Nothing is read behind a bad TOKEN, since no text goes on there. */
+        void split(int n) {
             end = Math.min(n, TAPE_ROOM);
             next = 0;
+            boolean more = true;
+            for (int i = 0; i <= TAPE_ROOM && more; i++) {
+                while (next < end && bytes[next] == ' ') {
+                    next++;
+                }
+                starts[i] = next;
+                keywords[i] = KEY_NONE;
+                values[i] = 0;
+                sorts[i] = readToken(i);
+                more = sorts[i] != TOKEN_END && sorts[i] != TOKEN_BAD;
+            }
+            at = -1;
             advance();
         }
 
         void advance() {
-            while (next < end && bytes[next] == ' ') {
-                next++;
+            if (at < TAPE_ROOM) {
+                at++;
             }
-            start = next;
+            sort = sorts[at];
+            start = starts[at];
+            keyword = keywords[at];
+            value = values[at];
+        }
+
+        private int readToken(int i) {
             if (next >= end) {
-                sort = TOKEN_END;
-            } else if (isLetter(bytes[next])) {
-                readWord();
-            } else if (isDigit(bytes[next])) {
-                readWhole();
-            } else if (bytes[next] == ';') {
-                sort = TOKEN_SEMICOLON;
-                next++;
-            } else {
-                sort = TOKEN_BAD;
+                return TOKEN_END;
             }
+            int sign = bytes[next];
+            if (isLetter(sign)) {
+                return readWord(i);
+            }
+            if (isDigit(sign)) {
+                return readWhole(i);
+            }
+            next++;
+            return sign == ';' ? TOKEN_SEMICOLON : TOKEN_BAD;
         }
 
-        private void readWord() {
-            word = 0;
+        /** Eight letters of five bits each fit a long, none of them 0, so unlike WORDS have unlike values. */
+        private int readWord(int i) {
+            int from = next;
+            long letters = 0;
             while (next < end && isLetter(bytes[next])) {
-                word = wordWith(word, bytes[next]);
+                letters = letters << 5 | bytes[next] - 'a' + 1;
                 next++;
             }
-            sort = next - start <= 8 ? TOKEN_WORD : TOKEN_BAD;
+            values[i] = letters;
+            for (int key = 1; key <= MOST_KEYS; key++) {
+                if (isSpelt(keyText(key), from, next)) {
+                    keywords[i] = key;
+                }
+            }
+            return next - from <= 8 ? TOKEN_WORD : TOKEN_BAD;
         }
 
-        private void readWhole() {
-            whole = 0;
+        private int readWhole(int i) {
+            int from = next;
+            long number = 0;
             while (next < end && isDigit(bytes[next])) {
-                whole = whole * 10 + bytes[next] - '0';
+                number = number * 10 + bytes[next] - '0';
                 next++;
             }
-            sort = next - start <= 3 ? TOKEN_WHOLE : TOKEN_BAD;
+            values[i] = number;
+            return next - from <= 3 ? TOKEN_WHOLE : TOKEN_BAD;
         }
 
-        boolean isWord(String text) {
-            return sort == TOKEN_WORD && word == codeOf(text);
-        }
-
-        private static long codeOf(String text) {
-            long code = 0;
-            for (int i = 0; i < text.length(); i++) {
-                code = wordWith(code, text.charAt(i));
+        private boolean isSpelt(String text, int from, int to) {
+            if (to - from != text.length() || from < 0 || to > TAPE_ROOM) {
+                return false;
             }
-            return code;
+            for (int i = 0; i < text.length(); i++) {
+                if (bytes[from + i] != text.charAt(i)) {
+                    return false;
+                }
+            }
+            return true;
         }
 
-        /** Eight letters of five bits each fit a long, none of them 0, so unlike WORDS have unlike codes. */
-        private static long wordWith(long code, int letter) {
-            return code << 5 | letter - 'a' + 1;
+        private static boolean isLetter(int sign) {
+            return sign >= 'a' && sign <= 'z';
         }
 
-        private static boolean isLetter(int b) {
-            return b >= 'a' && b <= 'z';
+        private static boolean isDigit(int sign) {
+            return sign >= '0' && sign <= '9';
         }
 
-        private static boolean isDigit(int b) {
-            return b >= '0' && b <= '9';
+        private static String keyText(int key) {
+            switch (key) {
+                case KEY_SAFE:
+                    return "safe";
+                case KEY_HOOK:
+                    return "hook";
+                case KEY_SENATOR:
+                    return "senator";
+                case KEY_ACT:
+                    return "act";
+                case KEY_FOR:
+                    return "for";
+                case KEY_RESTS:
+                    return "rests";
+                case KEY_DOUBTED:
+                    return "doubted";
+                case KEY_WENT:
+                    return "went";
+                case KEY_FELL:
+                    return "fell";
+                case KEY_QUORUM:
+                    return "quorum";
+                case KEY_HEAT:
+                    return "heat";
+                case KEY_THUNDER:
+                    return "thunder";
+                case KEY_SALT:
+                    return "salt";
+                case KEY_AIR:
+                    return "air";
+                case KEY_AT:
+                    return "at";
+                case KEY_GOOD:
+                    return "good";
+                case KEY_VOTES:
+                    return "votes";
+                case KEY_DAY:
+                    return "day";
+                case KEY_FRESH:
+                    return "fresh";
+                case KEY_SALTED:
+                    return "salted";
+                default:
+                    return "cold";
+            }
         }
     }
 
@@ -1423,11 +1513,7 @@ public final class SafeSenate {
             safeTold = false;
             hungBits = 0;
             nameCount = 0;
-            reader.begin(n);
-            return hearLines();
-        }
-
-        private boolean hearLines() {
+            reader.split(n);
             for (int i = 0; i <= TAPE_ROOM; i++) {
                 if (!hearLine()) {
                     return false;
@@ -1444,59 +1530,31 @@ public final class SafeSenate {
         }
 
         private boolean hearLine() {
-            int sort = lineSort();
-            if (sort == LINE_NONE) {
+            int key = reader.keyword;
+            if (key < KEY_SAFE || key > KEY_FELL || reader.sort != TOKEN_WORD) {
                 return fail(FAULT_FORM);
             }
-            if (sort != LINE_SAFE && !safeTold) {
+            if (key != KEY_SAFE && !safeTold) {
                 return fail(FAULT_LACKS);
             }
-            switch (sort) {
-                case LINE_SAFE:
+            switch (key) {
+                case KEY_SAFE:
                     return hearSafe();
-                case LINE_HOOK:
+                case KEY_HOOK:
                     return hearHook();
-                case LINE_SENATOR:
+                case KEY_SENATOR:
                     return hearSenator();
-                case LINE_ACT:
+                case KEY_ACT:
                     return hearAct();
-                case LINE_FOR:
+                case KEY_FOR:
                     return hearFor();
-                case LINE_RESTS:
+                case KEY_RESTS:
                     return hearRests();
-                case LINE_DOUBTED:
+                case KEY_DOUBTED:
                     return hearDoubted();
                 default:
-                    return hearOutcome(sort == LINE_WENT);
+                    return hearOutcome(key == KEY_WENT);
             }
-        }
-
-        private int lineSort() {
-            if (reader.isWord("safe")) {
-                return LINE_SAFE;
-            }
-            if (reader.isWord("hook")) {
-                return LINE_HOOK;
-            }
-            if (reader.isWord("senator")) {
-                return LINE_SENATOR;
-            }
-            if (reader.isWord("act")) {
-                return LINE_ACT;
-            }
-            if (reader.isWord("for")) {
-                return LINE_FOR;
-            }
-            if (reader.isWord("rests")) {
-                return LINE_RESTS;
-            }
-            if (reader.isWord("doubted")) {
-                return LINE_DOUBTED;
-            }
-            if (reader.isWord("went")) {
-                return LINE_WENT;
-            }
-            return reader.isWord("fell") ? LINE_FELL : LINE_NONE;
         }
 
         private boolean hearSafe() {
@@ -1505,19 +1563,19 @@ public final class SafeSenate {
             }
             safeTold = true;
             reader.advance();
-            if (!hearNumber("quorum", 1, 6)) {
+            if (!hearNumber(KEY_QUORUM, 1, 6)) {
                 return false;
             }
             plan.quorum = heardWhole;
-            if (!hearNumber("heat", 1, 9)) {
+            if (!hearNumber(KEY_HEAT, 1, 9)) {
                 return false;
             }
             plan.heat = heardWhole;
-            if (!hearNumber("thunder", 0, 100)) {
+            if (!hearNumber(KEY_THUNDER, 0, 100)) {
                 return false;
             }
             plan.thunder = heardWhole;
-            if (!hearNumber("salt", 0, 9)) {
+            if (!hearNumber(KEY_SALT, 0, 9)) {
                 return false;
             }
             plan.first.salt = heardWhole;
@@ -1530,7 +1588,7 @@ public final class SafeSenate {
                 return fail(FAULT_MANY);
             }
             reader.advance();
-            if (!hearNewName(LINE_HOOK, h) || !hearNumber("air", 0, 9)) {
+            if (!hearNewName(KEY_HOOK, h) || !hearNumber(KEY_AIR, 0, 9)) {
                 return false;
             }
             plan.air[h] = heardWhole;
@@ -1544,14 +1602,14 @@ public final class SafeSenate {
                 return fail(FAULT_MANY);
             }
             reader.advance();
-            if (!hearNewName(LINE_SENATOR, s) || !hearKind(s) || !hearWord("at") || !hearFreeHook(s)) {
+            if (!hearNewName(KEY_SENATOR, s) || !hearKind(s) || !hearWord(KEY_AT) || !hearFreeHook(s)) {
                 return false;
             }
-            if (!hearNumber("good", 1, 99)) {
+            if (!hearNumber(KEY_GOOD, 1, 99)) {
                 return false;
             }
             plan.first.left[s] = heardWhole;
-            if (!hearNumber("votes", 0, 9)) {
+            if (!hearNumber(KEY_VOTES, 0, 9)) {
                 return false;
             }
             plan.votes[s] = heardWhole;
@@ -1560,21 +1618,25 @@ public final class SafeSenate {
         }
 
         private boolean hearKind(int s) {
-            if (reader.isWord("fresh")) {
-                plan.first.kind[s] = FRESH;
-            } else if (reader.isWord("salted")) {
-                plan.first.kind[s] = SALTED;
-            } else if (reader.isWord("cold")) {
-                plan.first.kind[s] = COLD;
-            } else {
-                return fail(FAULT_FORM);
+            switch (reader.keyword) {
+                case KEY_FRESH:
+                    plan.first.kind[s] = FRESH;
+                    break;
+                case KEY_SALTED:
+                    plan.first.kind[s] = SALTED;
+                    break;
+                case KEY_COLD:
+                    plan.first.kind[s] = COLD;
+                    break;
+                default:
+                    return fail(FAULT_FORM);
             }
             reader.advance();
             return true;
         }
 
         private boolean hearFreeHook(int s) {
-            int h = toldNumber(LINE_HOOK);
+            int h = toldNumber(KEY_HOOK);
             if (h < 0) {
                 return false;
             }
@@ -1593,7 +1655,7 @@ public final class SafeSenate {
                 return fail(FAULT_MANY);
             }
             reader.advance();
-            if (!hearNewName(LINE_ACT, a) || !hearNumber("day", 0, LAST_ACT_DAY)) {
+            if (!hearNewName(KEY_ACT, a) || !hearNumber(KEY_DAY, 0, LAST_ACT_DAY)) {
                 return false;
             }
             plan.actDay[a] = heardWhole;
@@ -1606,12 +1668,12 @@ public final class SafeSenate {
                 return fail(FAULT_MANY);
             }
             reader.advance();
-            int s = toldNumber(LINE_SENATOR);
+            int s = toldNumber(KEY_SENATOR);
             if (s < 0) {
                 return false;
             }
             reader.advance();
-            int a = toldNumber(LINE_ACT);
+            int a = toldNumber(KEY_ACT);
             if (a < 0 || a >= MOST_ACTS) {
                 return false;
             }
@@ -1629,12 +1691,12 @@ public final class SafeSenate {
                 return fail(FAULT_MANY);
             }
             reader.advance();
-            int a = toldNumber(LINE_ACT);
+            int a = toldNumber(KEY_ACT);
             if (a < 0 || a >= MOST_ACTS) {
                 return false;
             }
             reader.advance();
-            int b = toldNumber(LINE_ACT);
+            int b = toldNumber(KEY_ACT);
             if (b < 0) {
                 return false;
             }
@@ -1652,7 +1714,7 @@ public final class SafeSenate {
                 return fail(FAULT_AGAIN);
             }
             reader.advance();
-            int s = toldNumber(LINE_SENATOR);
+            int s = toldNumber(KEY_SENATOR);
             if (s < 0) {
                 return false;
             }
@@ -1663,7 +1725,7 @@ public final class SafeSenate {
 
         private boolean hearOutcome(boolean goes) {
             reader.advance();
-            int a = toldNumber(LINE_ACT);
+            int a = toldNumber(KEY_ACT);
             if (a < 0) {
                 return false;
             }
@@ -1679,31 +1741,31 @@ public final class SafeSenate {
             return true;
         }
 
-        private boolean hearWord(String text) {
-            if (!reader.isWord(text)) {
+        private boolean hearWord(int key) {
+            if (reader.keyword != key) {
                 return fail(FAULT_FORM);
             }
             reader.advance();
             return true;
         }
 
-        private boolean hearNumber(String text, int least, int most) {
-            if (!hearWord(text)) {
+        private boolean hearNumber(int key, int least, int most) {
+            if (!hearWord(key)) {
                 return false;
             }
             if (reader.sort != TOKEN_WHOLE) {
                 return fail(FAULT_FORM);
             }
-            if (reader.whole < least || reader.whole > most) {
+            if (reader.value < least || reader.value > most) {
                 return fail(FAULT_BOUNDS);
             }
-            heardWhole = reader.whole;
+            heardWhole = (int) reader.value;
             reader.advance();
             return true;
         }
 
         private boolean isName() {
-            return reader.sort == TOKEN_WORD && lineSort() == LINE_NONE;
+            return reader.sort == TOKEN_WORD && (reader.keyword == KEY_NONE || reader.keyword > KEY_FELL);
         }
 
         private boolean hearNewName(int sort, int number) {
@@ -1716,7 +1778,7 @@ public final class SafeSenate {
             if (nameCount >= MOST_NAMES) {
                 return fail(FAULT_MANY);
             }
-            names[nameCount] = reader.word;
+            names[nameCount] = reader.value;
             nameSorts[nameCount] = sort;
             nameNumbers[nameCount] = number;
             nameCount++;
@@ -1736,7 +1798,7 @@ public final class SafeSenate {
 
         private int nameIndex() {
             for (int i = 0; i < nameCount && i < MOST_NAMES; i++) {
-                if (names[i] == reader.word) {
+                if (names[i] == reader.value) {
                     return i;
                 }
             }
