@@ -10,6 +10,7 @@ public final class ComingTest {
         lasts();
         acts();
         past();
+        lastPast();
         refusals();
         Due.end();
     }
@@ -98,6 +99,17 @@ public final class ComingTest {
         Due.is("gone by, moved later", x.going(), 3);
         Due.is("day 3", x.size(11), 3);
         Due.is("x went", x.act(0, 3), 1);
+    }
+
+    /** The last day on which an act may be put, seen from later days. */
+    private static void lastPast() {
+        SafeSenate x = Due.of("safe quorum 1 heat 1 thunder 0 salt 0;hook a air 0;hook b air 0;"
+            + "senator p fresh at a good 41 votes 2;senator q fresh at b good 40 votes 3;act x day 40;act y day 39;for p x;for p y");
+        Due.is("ahead", x.going(), 1);
+        for (int day = 1; day <= 99; day++) {
+            x.day();
+            Due.is("on day " + day, x.going(), 1);
+        }
     }
 
     private static void refusals() {

@@ -12,6 +12,8 @@ public final class TextTest {
         bounds();
         rooms();
         order();
+        spelling();
+        wholeTape();
         stays();
         Due.end();
     }
@@ -236,6 +238,35 @@ public final class TextTest {
         faultAt(ONE + "#!;hook a", 1);
         faultAt(Due.BASE + ";for #x p", 2);
         faultAt(Due.BASE + ";doubted p;#doubted !", 3);
+    }
+
+    /** A keyword with any one letter changed is none. */
+    private static void spelling() {
+        String[] texts = {"#safe quorum", "safe #quorum 2", "safe quorum 2 #heat 5", "safe quorum 2 heat 5 #thunder 5",
+            "safe quorum 2 heat 5 thunder 5 #salt 5", SAFE + ";#hook b", SAFE + ";hook b #air 1", ONE + ";#senator q",
+            ONE + ";hook b air 1;senator q #fresh at b", ONE + ";hook b air 1;senator q #salted at b",
+            ONE + ";hook b air 1;senator q #cold at b", ONE + ";hook b air 1;senator q cold #at b",
+            ONE + ";hook b air 1;senator q cold at b #good 5", ONE + ";hook b air 1;senator q cold at b good 5 #votes 1",
+            ONE + ";#act x", ONE + ";act x #day 1", Due.BASE + ";#for p x", Due.BASE + ";#rests x y",
+            Due.BASE + ";#doubted p", Due.BASE + ";#went x", Due.BASE + ";#fell x"};
+        for (String text : texts) {
+            int at = text.indexOf('#');
+            for (int i = at + 1; i < text.length() && text.charAt(i) != ' '; i++) {
+                faultAt(text.substring(0, i) + 'j' + text.substring(i + 1), 1);
+            }
+        }
+    }
+
+    private static void wholeTape() {
+        String blanks = " ".repeat(900 - ONE.length());
+        Due.is("900 bytes, blanks ahead", Due.tell(new SafeSenate(), blanks + ONE), 1);
+        Due.is("900 bytes, blanks behind", Due.tell(new SafeSenate(), ONE + blanks), 1);
+        String open = ONE + ";hook b air";
+        fault(" ".repeat(900 - open.length()) + open, 1, 900);
+        fault(";".repeat(900), 1, 0);
+        fault("1".repeat(900), 1, 0);
+        fault("a".repeat(900), 1, 0);
+        fault(" ".repeat(900), 1, 900);
     }
 
     private static void stays() {
