@@ -1213,6 +1213,7 @@ public final class SafeSenate {
         private int hooks;
         /** 0 where the sum of the worths counts. */
         private int quorum;
+        private int bound;
 
         void forMostGood(Plan plan, Moment from, int n) {
             begin(plan, 0);
@@ -1222,6 +1223,7 @@ public final class SafeSenate {
                     worth[s * MOST_HOOKS + h] = good ? 1 : 0;
                 }
             }
+            setBound();
             place(0, 0);
         }
 
@@ -1232,6 +1234,7 @@ public final class SafeSenate {
                     worth[s * MOST_HOOKS + h] = plan.goodDays(from, s, from.kind[s], h);
                 }
             }
+            setBound();
             place(0, 0);
         }
 
@@ -1239,15 +1242,26 @@ public final class SafeSenate {
             senators = plan.senatorCount;
             hooks = plan.hookCount;
             quorum = quorumOrNone;
+        }
+
+        /** As if each had the best hook for him: no way is better than that, so the first as good ends the search. */
+        private void setBound() {
+            for (int s = 0; s < senators && s < MOST_SENATORS; s++) {
+                chosen.days[s] = 0;
+                for (int h = 0; h < hooks && h < MOST_HOOKS; h++) {
+                    chosen.days[s] = Math.max(chosen.days[s], worth[s * MOST_HOOKS + h]);
+                }
+            }
+            bound = valueOfChosen();
             best = NONE;
         }
 
         private void place(int s, int taken) {
             if (s >= senators || s >= MOST_SENATORS) {
-                keepIfBetter();
+                keepIfBetter(valueOfChosen());
                 return;
             }
-            for (int h = 0; h < hooks && h < MOST_HOOKS; h++) {
+            for (int h = 0; h < hooks && h < MOST_HOOKS && best < bound; h++) {
                 if ((taken >> h & 1) == 0) {
                     at[s] = h;
                     chosen.days[s] = worth[s * MOST_HOOKS + h];
@@ -1256,8 +1270,11 @@ public final class SafeSenate {
             }
         }
 
-        private void keepIfBetter() {
-            int value = quorum == 0 ? chosen.sum(senators) : chosen.quorumDays(senators, quorum);
+        private int valueOfChosen() {
+            return quorum == 0 ? chosen.sum(senators) : chosen.quorumDays(senators, quorum);
+        }
+
+        private void keepIfBetter(int value) {
             if (value > best) {
                 best = value;
                 System.arraycopy(at, 0, bestAt, 0, MOST_SENATORS);
