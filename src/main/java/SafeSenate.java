@@ -160,7 +160,7 @@ public final class SafeSenate {
             case 4:
                 return grant(plan.actsOf(s));
             default:
-                return grant(plan.lossOver(now.kind[s], now.hookOf[s], now.day, 1));
+                return grant(plan.lossBehind(now, s, 1));
         }
     }
 
@@ -210,7 +210,7 @@ public final class SafeSenate {
         if (outside(n, MOST_AHEAD)) {
             return refuse(BAD_NUMBER);
         }
-        return grant(Math.max(0, now.left[s] - plan.lossOver(now.kind[s], now.hookOf[s], now.day, n)));
+        return grant(now.left[s] - plan.lossBehind(now, s, n));
     }
 
     public int offIn(int s) {
@@ -1028,6 +1028,11 @@ public final class SafeSenate {
             }
             int loss = Math.max(1, heat - airAt(h));
             return n * (kind == COLD ? loss / 2 : loss);
+        }
+
+        /** What one loses in n days from the moment on without THUNDER: he has no more to lose than he is good for. */
+        int lossBehind(Moment from, int s, int n) {
+            return Math.min(from.left[s], lossOver(from.kind[s], from.hookOf[s], from.day, n));
         }
 
         /** On how many days from the moment on, itself the first, one would be GOOD so hung and of that kind. */

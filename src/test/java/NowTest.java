@@ -33,7 +33,7 @@ public final class NowTest {
         row("q", senatorRow(x, 1), 2, 0, 9, 2, 5, 2);
         row("r", senatorRow(x, 2), 1, 3, 1, 4, 2, 1);
         x.move(0, 2);
-        Due.is("loss by the hook he hangs at now", x.senator(0, 5), 3);
+        Due.is("3 by the hook he hangs at now, but he has 2 alone", x.senator(0, 5), 2);
         x.move(1, 1);
         Due.is("cold, half of 1 at least", x.senator(1, 5), 0);
         x.salt(1);
@@ -42,7 +42,30 @@ public final class NowTest {
         x.day();
         Due.is("salted on an odd day", x.senator(1, 5), 0);
         Due.is("none below 0", x.senator(0, 2), 0);
-        Due.is("the told rate of one who is OFF", x.senator(0, 5), 3);
+        Due.is("one who is OFF loses nothing", x.senator(0, 5), 0);
+        x.undo();
+        x.day();
+        Due.is("nor does he behind undoing", x.senator(0, 5), 0);
+        Due.is("a salted one who is OFF, on an odd day", x.senator(2, 5), 0);
+        x.day();
+        Due.is("a salted one who is OFF, on an even day", x.senator(2, 5), 0);
+        losses();
+    }
+
+    private static void losses() {
+        String text = "safe quorum 1 heat 9 thunder 100 salt 0;hook a air 4;hook b air 0;hook c air 9;"
+            + "senator p fresh at a good 12 votes 1;senator q cold at b good 9 votes 1;senator r fresh at c good 4 votes 1";
+        SafeSenate x = Due.of(text);
+        // by THUNDER 3 more are lost each DAY, which a loss told ahead of it leaves out
+        int[][] left = {{12, 9, 4}, {4, 2, 0}, {0, 0, 0}};
+        int[][] loss = {{5, 4, 1}, {4, 2, 0}, {0, 0, 0}};
+        for (int day = 0; day < 3; day++) {
+            for (int s = 0; s < 3; s++) {
+                Due.is("day " + day + " has " + s, x.senator(s, 2), left[day][s]);
+                Due.is("day " + day + " loses " + s, x.senator(s, 5), loss[day][s]);
+            }
+            x.day();
+        }
     }
 
     private static void hooks() {

@@ -404,7 +404,7 @@ final class PlainSenate {
         for (int a = 0; a < acts(); a++) {
             acts |= (forBits(a) >> s & 1) << a;
         }
-        int[] row = {now.kind[s], now.hook[s], now.left[s], one("senator", s)[3], acts, loss(now, s)};
+        int[] row = {now.kind[s], now.hook[s], now.left[s], one("senator", s)[3], acts, Math.min(loss(now, s), now.left[s])};
         return yes(row[what]);
     }
 
