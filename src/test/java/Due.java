@@ -78,6 +78,22 @@ final class Due {
         return x;
     }
 
+    static void fault(String text, int number, int place) {
+        SafeSenate x = new SafeSenate();
+        refused(text, x, tell(x, text), 4);
+        is("fault of " + text, x.fault(), number);
+        is("place in " + text, x.where(), place);
+        is("tape empty behind " + text, x.size(15), 0);
+        x.good();
+        is("place gone behind another refusal", x.where(), -1);
+        is("fault stays", x.fault(), number);
+    }
+
+    /** The fault stands at the sign '#', which is taken out. */
+    static void faultAt(String text, int number) {
+        fault(text.replace("#", ""), number, text.indexOf('#'));
+    }
+
     static void end() {
         System.out.println(asked + " answers, " + wrong + " of them not as due");
         if (wrong != 0 || asked == 0) {

@@ -3,14 +3,17 @@ import java.util.NoSuchElementException;
 
 /** Random runs of calls, each answer compared with that of the plain model. */
 public final class ModelTest {
-    private static final int RUNS = 500;
+    private static final int RUNS = 1000;
     private static final int TEXTS = 20000;
+    /** What an object answers behind so many calls is free. */
+    private static final int LAST_CALL = 512;
 
     private final Draws draws;
     private final SafeSenate x = new SafeSenate();
     private final PlainSenate plain = new PlainSenate();
     private final StringBuilder told = new StringBuilder();
     private boolean heldBack;
+    private int calls;
 
     private ModelTest(long start) {
         draws = new Draws(start);
@@ -21,11 +24,10 @@ public final class ModelTest {
             new ModelTest(run).run();
         }
         int[] met = new int[8];
-        ModelTest texts = new ModelTest(4711);
         for (int i = 0; i < TEXTS; i++) {
-            texts.told.setLength(0);
-            texts.tell(i % 10 == 0 ? texts.draws.babble() : texts.draws.spoilt());
-            met[texts.plain.fault]++;
+            ModelTest text = new ModelTest(4711 + i);
+            text.tell(i % 10 == 0 ? text.draws.babble() : text.draws.spoilt());
+            met[text.plain.fault]++;
         }
         for (int fault = 0; fault < met.length; fault++) {
             Due.is("fault " + fault + " was met often", met[fault] > 50, true);
@@ -38,12 +40,17 @@ public final class ModelTest {
             tell(draws.sound());
             Due.is(told + "is sound", plain.fault == 0 || heldBack, true);
         }
-        for (int i = 0; i < 150; i++) {
+        while (calls < LAST_CALL) {
             call();
         }
     }
 
+    /** Four calls of the object, the one that was made among them. */
     private void same(String call, long got, long want) {
+        calls += 4;
+        if (calls > LAST_CALL) {
+            return;
+        }
         Due.is(told + call, got, want);
         told.setLength(Math.min(told.length(), 20000));
         Due.is(call + " then trouble", x.trouble(), plain.trouble);

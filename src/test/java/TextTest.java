@@ -12,7 +12,6 @@ public final class TextTest {
         bounds();
         rooms();
         order();
-        spelling();
         wholeTape();
         stays();
         Due.end();
@@ -97,132 +96,116 @@ public final class TextTest {
         Due.is("where does not", x.where(), -1);
     }
 
-    private static void fault(String text, int number, int place) {
-        SafeSenate x = new SafeSenate();
-        Due.refused(text, x, Due.tell(x, text), 4);
-        Due.is("fault of " + text, x.fault(), number);
-        Due.is("place in " + text, x.where(), place);
-        Due.is("tape empty behind " + text, x.size(15), 0);
-        x.good();
-        Due.is("place gone behind another refusal", x.where(), -1);
-        Due.is("fault stays", x.fault(), number);
-    }
-
-    /** The fault stands at the sign '#', which is taken out. */
-    private static void faultAt(String text, int number) {
-        fault(text.replace("#", ""), number, text.indexOf('#'));
-    }
-
     private static void faults() {
-        faultAt("#", 1);
-        faultAt("   #", 1);
-        faultAt("#;", 1);
-        faultAt("#foo", 1);
-        faultAt("#12", 1);
-        faultAt("#Safe", 1);
-        faultAt("#\t", 1);
-        faultAt("#" + (char) 233, 1);
-        faultAt("#safequorum", 1);
-        faultAt("#hook", 6);
-        faultAt("#senator", 6);
-        faultAt("#act", 6);
-        faultAt("#for", 6);
-        faultAt("#rests", 6);
-        faultAt("#doubted", 6);
-        faultAt("#went", 6);
-        faultAt("#fell", 6);
-        faultAt("safe#", 1);
-        faultAt("safe #heat", 1);
-        faultAt("safe #2", 1);
-        faultAt("safe quorum#", 1);
-        faultAt("safe quorum #x", 1);
-        faultAt("safe quorum #1234", 1);
-        faultAt("safe quorum 2 #quorum", 1);
-        faultAt("safe quorum 2 #2", 1);
-        faultAt("safe quorum 2 heat 5 thunder 5 salt 5 #5", 1);
-        faultAt(SAFE + "#", 6);
-        faultAt(SAFE + "   #", 6);
-        faultAt(SAFE + ";#", 1);
-        faultAt(SAFE + ";hook a air 1#", 6);
-        faultAt(SAFE + ";#;", 1);
-        faultAt(SAFE + " #safe", 1);
-        faultAt(SAFE + ";#safe", 3);
-        faultAt(ONE + ";#", 1);
-        faultAt(ONE + "#.", 1);
-        faultAt(ONE + ";hook #abcdefghi", 1);
-        faultAt(ONE + ";hook #safe", 1);
-        faultAt(ONE + ";hook #a", 3);
-        faultAt(ONE + ";hook #p", 3);
-        faultAt(ONE + ";hook b #12", 1);
-        faultAt(ONE + ";senator #a", 3);
-        faultAt(ONE + ";senator #p", 3);
-        faultAt(ONE + ";senator #hook", 1);
-        faultAt(ONE + ";senator q #at", 1);
-        faultAt(ONE + ";senator q fresh #a", 1);
-        faultAt(ONE + ";senator q fresh at #p", 2);
-        faultAt(ONE + ";senator q fresh at #q", 2);
-        faultAt(ONE + ";senator q fresh at #z", 2);
-        faultAt(ONE + ";senator q fresh at #fell", 1);
-        faultAt(ONE + ";senator q fresh at #1", 1);
-        faultAt(ONE + ";senator q fresh at #a", 7);
-        faultAt(ONE + ";hook b air 1;senator q fresh at b#", 1);
-        faultAt(ONE + ";hook b air 1;senator q fresh at b good 5 votes#", 1);
-        faultAt(ONE + ";act #p", 3);
-        faultAt(ONE + ";act x day 1;act #x", 3);
-        faultAt(Due.BASE + ";for #x", 2);
-        faultAt(Due.BASE + ";for #a", 2);
-        faultAt(Due.BASE + ";for #went", 1);
-        faultAt(Due.BASE + ";for p #p", 2);
-        faultAt(Due.BASE + ";for p #z", 2);
-        faultAt(Due.BASE + ";for p x;for p y;for p #x", 3);
-        faultAt(Due.BASE + ";rests #p", 2);
-        faultAt(Due.BASE + ";rests x #x", 3);
-        faultAt(Due.BASE + ";rests x #a", 2);
-        faultAt(Due.BASE + ";rests x y;rests y x;rests y #x", 3);
-        faultAt(Due.BASE + ";doubted #y", 2);
-        faultAt(Due.BASE + ";doubted p;#doubted p", 3);
-        faultAt(Due.BASE + ";went #p", 2);
-        faultAt(Due.BASE + ";went x;went #x", 3);
-        faultAt(Due.BASE + ";fell x;went y;fell #y", 3);
-        faultAt(Due.BASE + ";fell x;went #x", 3);
-        faultAt(Due.BASE + ";for p x #y", 1);
+        Due.faultAt("#", 1);
+        Due.faultAt("   #", 1);
+        Due.faultAt("#;", 1);
+        Due.faultAt("#foo", 1);
+        Due.faultAt("#12", 1);
+        Due.faultAt("#Safe", 1);
+        Due.faultAt("#\t", 1);
+        Due.faultAt("#" + (char) 233, 1);
+        Due.faultAt("#safequorum", 1);
+        Due.faultAt("#hook", 6);
+        Due.faultAt("#senator", 6);
+        Due.faultAt("#act", 6);
+        Due.faultAt("#for", 6);
+        Due.faultAt("#rests", 6);
+        Due.faultAt("#doubted", 6);
+        Due.faultAt("#went", 6);
+        Due.faultAt("#fell", 6);
+        Due.faultAt("safe#", 1);
+        Due.faultAt("safe #heat", 1);
+        Due.faultAt("safe #2", 1);
+        Due.faultAt("safe quorum#", 1);
+        Due.faultAt("safe quorum #x", 1);
+        Due.faultAt("safe quorum #1234", 1);
+        Due.faultAt("safe quorum 2 #quorum", 1);
+        Due.faultAt("safe quorum 2 #2", 1);
+        Due.faultAt("safe quorum 2 heat 5 thunder 5 salt 5 #5", 1);
+        Due.faultAt(SAFE + "#", 6);
+        Due.faultAt(SAFE + "   #", 6);
+        Due.faultAt(SAFE + ";#", 1);
+        Due.faultAt(SAFE + ";hook a air 1#", 6);
+        Due.faultAt(SAFE + ";#;", 1);
+        Due.faultAt(SAFE + " #safe", 1);
+        Due.faultAt(SAFE + ";#safe", 3);
+        Due.faultAt(ONE + ";#", 1);
+        Due.faultAt(ONE + "#.", 1);
+        Due.faultAt(ONE + ";hook #abcdefghi", 1);
+        Due.faultAt(ONE + ";hook #safe", 1);
+        Due.faultAt(ONE + ";hook #a", 3);
+        Due.faultAt(ONE + ";hook #p", 3);
+        Due.faultAt(ONE + ";hook b #12", 1);
+        Due.faultAt(ONE + ";senator #a", 3);
+        Due.faultAt(ONE + ";senator #p", 3);
+        Due.faultAt(ONE + ";senator #hook", 1);
+        Due.faultAt(ONE + ";senator q #at", 1);
+        Due.faultAt(ONE + ";senator q fresh #a", 1);
+        Due.faultAt(ONE + ";senator q fresh at #p", 2);
+        Due.faultAt(ONE + ";senator q fresh at #q", 2);
+        Due.faultAt(ONE + ";senator q fresh at #z", 2);
+        Due.faultAt(ONE + ";senator q fresh at #fell", 1);
+        Due.faultAt(ONE + ";senator q fresh at #1", 1);
+        Due.faultAt(ONE + ";senator q fresh at #a", 7);
+        Due.faultAt(ONE + ";hook b air 1;senator q fresh at b#", 1);
+        Due.faultAt(ONE + ";hook b air 1;senator q fresh at b good 5 votes#", 1);
+        Due.faultAt(ONE + ";act #p", 3);
+        Due.faultAt(ONE + ";act x day 1;act #x", 3);
+        Due.faultAt(Due.BASE + ";for #x", 2);
+        Due.faultAt(Due.BASE + ";for #a", 2);
+        Due.faultAt(Due.BASE + ";for #went", 1);
+        Due.faultAt(Due.BASE + ";for p #p", 2);
+        Due.faultAt(Due.BASE + ";for p #z", 2);
+        Due.faultAt(Due.BASE + ";for p x;for p y;for p #x", 3);
+        Due.faultAt(Due.BASE + ";rests #p", 2);
+        Due.faultAt(Due.BASE + ";rests x #x", 3);
+        Due.faultAt(Due.BASE + ";rests x #a", 2);
+        Due.faultAt(Due.BASE + ";rests x y;rests y x;rests y #x", 3);
+        Due.faultAt(Due.BASE + ";doubted #y", 2);
+        Due.faultAt(Due.BASE + ";doubted p;#doubted p", 3);
+        Due.faultAt(Due.BASE + ";went #p", 2);
+        Due.faultAt(Due.BASE + ";went x;went #x", 3);
+        Due.faultAt(Due.BASE + ";fell x;went y;fell #y", 3);
+        Due.faultAt(Due.BASE + ";fell x;went #x", 3);
+        Due.faultAt(Due.BASE + ";for p x #y", 1);
     }
 
     private static void bounds() {
-        faultAt("safe quorum #0", 4);
-        faultAt("safe quorum #7", 4);
-        faultAt("safe quorum 6 heat #0", 4);
-        faultAt("safe quorum 1 heat #10", 4);
-        faultAt("safe quorum 1 heat 9 thunder #101", 4);
-        faultAt("safe quorum 1 heat 1 thunder 100 salt #10", 4);
-        faultAt(SAFE + ";hook a air #10", 4);
-        faultAt(SAFE + ";hook a air 9;senator p cold at a good #0", 4);
-        faultAt(SAFE + ";hook a air 0;senator p cold at a good #100", 4);
-        faultAt(SAFE + ";hook a air 0;senator p cold at a good 99 votes #10", 4);
-        faultAt(ONE + ";act x day #41", 4);
+        Due.faultAt("safe quorum #0", 4);
+        Due.faultAt("safe quorum #7", 4);
+        Due.faultAt("safe quorum 6 heat #0", 4);
+        Due.faultAt("safe quorum 1 heat #10", 4);
+        Due.faultAt("safe quorum 1 heat 9 thunder #101", 4);
+        Due.faultAt("safe quorum 1 heat 1 thunder 100 salt #10", 4);
+        Due.faultAt(SAFE + ";hook a air #10", 4);
+        Due.faultAt(SAFE + ";hook a air 9;senator p cold at a good #0", 4);
+        Due.faultAt(SAFE + ";hook a air 0;senator p cold at a good #100", 4);
+        Due.faultAt(SAFE + ";hook a air 0;senator p cold at a good 99 votes #10", 4);
+        Due.faultAt(ONE + ";act x day #41", 4);
         Due.is("edges are fine", Due.tell(new SafeSenate(),
             "safe quorum 6 heat 9 thunder 0 salt 0;hook a air 9;senator p salted at a good 1 votes 0;act x day 40;act y day 0"), 1);
     }
 
     private static void rooms() {
         String hooks = SAFE + ";hook a air 1;hook b air 1;hook c air 1;hook d air 1;hook e air 1;hook f air 1";
-        faultAt(hooks + ";#hook", 5);
+        Due.faultAt(hooks + ";#hook", 5);
         String senators = hooks + ";senator g cold at a good 1 votes 1;senator h cold at b good 1 votes 1"
             + ";senator i cold at c good 1 votes 1;senator j cold at d good 1 votes 1"
             + ";senator k cold at e good 1 votes 1;senator l cold at f good 1 votes 1";
-        faultAt(senators + ";#senator g", 5);
+        Due.faultAt(senators + ";#senator g", 5);
         String acts = senators + ";act m day 1;act n day 1;act o day 1;act p day 1;act q day 1";
-        faultAt(acts + ";#act 7", 5);
+        Due.faultAt(acts + ";#act 7", 5);
         StringBuilder text = new StringBuilder(acts);
         for (int i = 0; i < 15; i++) {
             text.append(";for ").append((char) ('g' + i % 6)).append(' ').append((char) ('m' + i % 5));
         }
         String fors = text.toString();
-        faultAt(fors + ";#for g m", 5);
+        Due.faultAt(fors + ";#for g m", 5);
         String rests = fors + ";rests m n;rests m o;rests m p;rests m q;rests n m;rests n o";
-        faultAt(rests + ";#rests n o", 5);
+        Due.faultAt(rests + ";#rests n o", 5);
         String all = rests + ";doubted l;went m;fell n;went o;fell p;went q";
-        faultAt(all + ";went #m", 3);
+        Due.faultAt(all + ";went #m", 3);
         SafeSenate x = Due.of(all);
         int[] sizes = {2, 5, 5, 5, 6, 6, 5, 15, 6, 1, 5, 0, 0, 0, 0, 0};
         for (int what = 0; what < sizes.length; what++) {
@@ -232,29 +215,12 @@ public final class TextTest {
 
     /** Of several faults the one furthest to the left counts, whatever its number. */
     private static void order() {
-        faultAt("#hook a air 77!", 6);
-        faultAt(SAFE + ";hook a air #10;!", 4);
-        faultAt(ONE + ";senator q cold at #a good 0", 7);
-        faultAt(ONE + "#!;hook a", 1);
-        faultAt(Due.BASE + ";for #x p", 2);
-        faultAt(Due.BASE + ";doubted p;#doubted !", 3);
-    }
-
-    /** A keyword with any one letter changed is none. */
-    private static void spelling() {
-        String[] texts = {"#safe quorum", "safe #quorum 2", "safe quorum 2 #heat 5", "safe quorum 2 heat 5 #thunder 5",
-            "safe quorum 2 heat 5 thunder 5 #salt 5", SAFE + ";#hook b", SAFE + ";hook b #air 1", ONE + ";#senator q",
-            ONE + ";hook b air 1;senator q #fresh at b", ONE + ";hook b air 1;senator q #salted at b",
-            ONE + ";hook b air 1;senator q #cold at b", ONE + ";hook b air 1;senator q cold #at b",
-            ONE + ";hook b air 1;senator q cold at b #good 5", ONE + ";hook b air 1;senator q cold at b good 5 #votes 1",
-            ONE + ";#act x", ONE + ";act x #day 1", Due.BASE + ";#for p x", Due.BASE + ";#rests x y",
-            Due.BASE + ";#doubted p", Due.BASE + ";#went x", Due.BASE + ";#fell x"};
-        for (String text : texts) {
-            int at = text.indexOf('#');
-            for (int i = at + 1; i < text.length() && text.charAt(i) != ' '; i++) {
-                faultAt(text.substring(0, i) + 'j' + text.substring(i + 1), 1);
-            }
-        }
+        Due.faultAt("#hook a air 77!", 6);
+        Due.faultAt(SAFE + ";hook a air #10;!", 4);
+        Due.faultAt(ONE + ";senator q cold at #a good 0", 7);
+        Due.faultAt(ONE + "#!;hook a", 1);
+        Due.faultAt(Due.BASE + ";for #x p", 2);
+        Due.faultAt(Due.BASE + ";doubted p;#doubted !", 3);
     }
 
     private static void wholeTape() {
@@ -262,11 +228,11 @@ public final class TextTest {
         Due.is("900 bytes, blanks ahead", Due.tell(new SafeSenate(), blanks + ONE), 1);
         Due.is("900 bytes, blanks behind", Due.tell(new SafeSenate(), ONE + blanks), 1);
         String open = ONE + ";hook b air";
-        fault(" ".repeat(900 - open.length()) + open, 1, 900);
-        fault(";".repeat(900), 1, 0);
-        fault("1".repeat(900), 1, 0);
-        fault("a".repeat(900), 1, 0);
-        fault(" ".repeat(900), 1, 900);
+        Due.fault(" ".repeat(900 - open.length()) + open, 1, 900);
+        Due.fault(";".repeat(900), 1, 0);
+        Due.fault("1".repeat(900), 1, 0);
+        Due.fault("a".repeat(900), 1, 0);
+        Due.fault(" ".repeat(900), 1, 900);
     }
 
     private static void stays() {
