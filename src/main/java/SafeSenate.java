@@ -81,6 +81,11 @@ public final class SafeSenate {
     private static final int KEY_SALTED = 20;
     private static final int KEY_COLD = 21;
     private static final int MOST_KEYS = KEY_COLD;
+    /** In the order of their numbers. */
+    private static final String KEY_TEXTS =
+        "safe hook senator act for rests doubted went fell quorum heat thunder salt air at good votes day fresh salted cold";
+    private static final int LONGEST_WORD = 8;
+    private static final int LONGEST_WHOLE = 3;
 
     private final Parser parser = new Parser();
     private Plan plan = new Plan();
@@ -1352,9 +1357,22 @@ public final class SafeSenate {
         private final int[] starts = new int[TAPE_ROOM + 1];
         private final int[] keywords = new int[TAPE_ROOM + 1];
         private final long[] values = new long[TAPE_ROOM + 1];
+        private final long[] keyLetters = new long[MOST_KEYS + 1];
         private int next;
         private int end;
         private int at;
+
+        Reader() {
+            int key = KEY_SAFE;
+            for (int i = 0; i < KEY_TEXTS.length() && key <= MOST_KEYS; i++) {
+                char sign = KEY_TEXTS.charAt(i);
+                if (sign == ' ') {
+                    key++;
+                } else {
+                    keyLetters[key] = withLetter(keyLetters[key], sign);
+                }
+            }
+        }
 
         void put(int number) {
             for (int shift = 24; shift >= 0; shift -= 8) {
@@ -1409,21 +1427,19 @@ public final class SafeSenate {
             return sign == ';' ? TOKEN_SEMICOLON : TOKEN_BAD;
         }
 
-        /** Eight letters of five bits each fit a long, none of them 0, so unlike WORDS have unlike values. */
         private int readWord(int i) {
             int from = next;
             long letters = 0;
             while (next < end && isLetter(bytes[next])) {
-                letters = letters << 5 | bytes[next] - 'a' + 1;
+                letters = withLetter(letters, bytes[next]);
                 next++;
             }
-            values[i] = letters;
-            for (int key = 1; key <= MOST_KEYS; key++) {
-                if (isSpelt(keyText(key), from, next)) {
-                    keywords[i] = key;
-                }
+            if (next - from > LONGEST_WORD) {
+                return TOKEN_BAD;
             }
-            return next - from <= 8 ? TOKEN_WORD : TOKEN_BAD;
+            values[i] = letters;
+            keywords[i] = keyOf(letters);
+            return TOKEN_WORD;
         }
 
         private int readWhole(int i) {
@@ -1434,19 +1450,21 @@ public final class SafeSenate {
                 next++;
             }
             values[i] = number;
-            return next - from <= 3 ? TOKEN_WHOLE : TOKEN_BAD;
+            return next - from <= LONGEST_WHOLE ? TOKEN_WHOLE : TOKEN_BAD;
         }
 
-        private boolean isSpelt(String text, int from, int to) {
-            if (to - from != text.length() || from < 0 || to > TAPE_ROOM) {
-                return false;
-            }
-            for (int i = 0; i < text.length(); i++) {
-                if (bytes[from + i] != text.charAt(i)) {
-                    return false;
+        /** Eight letters of five bits each fit a long, none of them 0, so unlike WORDS have unlike values. */
+        private static long withLetter(long letters, int letter) {
+            return letters << 5 | letter - 'a' + 1;
+        }
+
+        private int keyOf(long letters) {
+            for (int key = KEY_SAFE; key <= MOST_KEYS; key++) {
+                if (keyLetters[key] == letters) {
+                    return key;
                 }
             }
-            return true;
+            return KEY_NONE;
         }
 
         private static boolean isLetter(int sign) {
@@ -1455,53 +1473,6 @@ public final class SafeSenate {
 
         private static boolean isDigit(int sign) {
             return sign >= '0' && sign <= '9';
-        }
-
-        private static String keyText(int key) {
-            switch (key) {
-                case KEY_SAFE:
-                    return "safe";
-                case KEY_HOOK:
-                    return "hook";
-                case KEY_SENATOR:
-                    return "senator";
-                case KEY_ACT:
-                    return "act";
-                case KEY_FOR:
-                    return "for";
-                case KEY_RESTS:
-                    return "rests";
-                case KEY_DOUBTED:
-                    return "doubted";
-                case KEY_WENT:
-                    return "went";
-                case KEY_FELL:
-                    return "fell";
-                case KEY_QUORUM:
-                    return "quorum";
-                case KEY_HEAT:
-                    return "heat";
-                case KEY_THUNDER:
-                    return "thunder";
-                case KEY_SALT:
-                    return "salt";
-                case KEY_AIR:
-                    return "air";
-                case KEY_AT:
-                    return "at";
-                case KEY_GOOD:
-                    return "good";
-                case KEY_VOTES:
-                    return "votes";
-                case KEY_DAY:
-                    return "day";
-                case KEY_FRESH:
-                    return "fresh";
-                case KEY_SALTED:
-                    return "salted";
-                default:
-                    return "cold";
-            }
         }
     }
 
